@@ -14,6 +14,7 @@ public final class FailureTest {
         twiceStops();
         orderOfThoseDoneAgain();
         noneBesideOneDoneAgain();
+        threadZeroCountsToo();
         memoryOfAFailure();
         holdingWhenStopped();
         holdingOneDoneAgain();
@@ -212,6 +213,22 @@ public final class FailureTest {
         Due.turns("blocks are taken again", x, 1, 0, 2);
         Due.thread("block 2", x, 0, 2, 2, 0, 0, 0);
         Due.thread("block 3", x, 2, 2, 3, 0, 1, 0);
+    }
+
+    private static void threadZeroCountsToo() {
+        PackThreads x = of(8, 16);
+        x.plant(1, 0, 1, false);
+        x.begin(2);
+        Due.turns("take, and 1 fails", x, 1, 0, 1, 1);
+        Due.turns("thread 0 is at work", x, 0, 1);
+        makeBlock(x, 0);
+        Due.turns("thread 0 does block 1 again", x, 1, 0);
+        Due.thread("done again", x, 0, 2, 1, 0, 1, 0);
+        Due.is("none is left to be done again", x.told(10), 0);
+        Due.turns("block 2 is not taken beside it", x, 0, 1);
+        makeBlock(x, 0);
+        Due.turns("it is taken then", x, 1, 1);
+        Due.thread("block 2", x, 1, 2, 2, 0, 0, 0);
     }
 
     private static void memoryOfAFailure() {

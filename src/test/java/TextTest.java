@@ -11,6 +11,8 @@ public final class TextTest {
         begin();
         clear();
         clearForgetsPlants();
+        clearInTheMiddle();
+        clearEmptiesTheRow();
         Due.finish();
     }
 
@@ -175,5 +177,61 @@ public final class TextTest {
         Due.told("behind a stop and clear", x, 1, 0, 0, 64, 0, 0, NONE, 0, 0, 0, 0);
         x.run(400);
         Due.is("joined behind a stop and clear", x.told(1), 1);
+    }
+
+    private static void clearInTheMiddle() {
+        PackThreads x = new PackThreads();
+        x.set(0, 4);
+        x.set(1, 0);
+        x.set(2, 32);
+        Due.types(x, "abcdefghijkl");
+        x.plant(0, 0, 1, false);
+        x.begin(3);
+        x.interrupt(2);
+        Due.turns("take, take, 0 fails", x, 1, 0, 1, 0);
+        Due.turns("block 1 is made", x, 1, 1, 1, 1, 1);
+        Due.told("in the middle", x, 3, 0, 0, 32, 0, 1, NONE, 0, 1, 7, 1);
+        Due.is("clear", x.clear(), 12);
+
+        Due.types(x, "abcdefghijkl");
+        x.plant(0, 0, 1, false);
+        x.begin(3);
+        Due.told("begun anew", x, 3, 0, 0, 32, 0, 0, NONE, 0, 0, 0, 0);
+        Due.is("none is interrupted", x.interrupt(2), 1);
+        Due.is("take, take, end", x.run(3), 3);
+        Due.turns("0 fails for the first time", x, 1, 0);
+        Due.told("not stopped", x, 3, 0, 0, 28, 0, 0, NONE, 0, 1, 4, 1);
+        Due.is("the rest", x.run(400), 16);
+        Due.told("joined", x, 3, 3, 18, 32, 0, 0, NONE, 0, 1, 20, 0);
+        x.clear();
+
+        x.set(0, 32);
+        Due.types(x, "0123456789".repeat(10));
+        x.begin(3);
+        Due.turns("one works, two wait", x, 1, 0, 1, 2);
+        Due.is("two wait", x.told(4), 2);
+        Due.is("clear", x.clear(), 100);
+        Due.types(x, "abcd");
+        x.begin(1);
+        Due.told("no line is left", x, 1, 0, 0, 32, 0, 0, NONE, 0, 0, 0, 0);
+        Due.is("none waits", x.waiting(0), NONE);
+        Due.is("take", x.run(1), 1);
+        Due.thread("at work", x, 0, 2, 0, 0, 0, 0);
+    }
+
+    private static void clearEmptiesTheRow() {
+        PackThreads x = new PackThreads();
+        x.set(0, 4);
+        x.set(1, 0);
+        Due.types(x, "abcdefgh");
+        x.begin(2);
+        Due.turns("block 1 is made before block 0", x, 1, 0, 1, 1, 1, 1, 1);
+        Due.is("it is in the row", x.told(5), 1);
+        x.clear();
+        Due.types(x, "ABCDEFGH");
+        x.begin(1);
+        Due.is("block 0 is made", x.run(5), 5);
+        Due.told("it alone is joined", x, 2, 1, 6, 64, 0, 0);
+        Due.out("it alone is joined", x, 4, 65, 66, 67, 68, 0);
     }
 }

@@ -20,6 +20,7 @@ public final class TurnTest {
         interruptedHolding();
         close();
         closeWithLine();
+        closeGivesTheLineNothing();
         Due.finish();
     }
 
@@ -312,5 +313,19 @@ public final class TurnTest {
         Due.told("closed", x, 3, 0, 0, 32, 0, 0, NONE, 0, 0, 3, 0);
         Due.is("none waits", x.waiting(0), NONE);
         Due.thread("never began work", x, 1, 4, NONE, NONE, 0, 1);
+    }
+
+    private static void closeGivesTheLineNothing() {
+        // Those in line end before the one at work gives its memory back.
+        PackThreads x = of(32, 32, 1, 96);
+        x.begin(3);
+        Due.turns("one works, two wait", x, 1, 2, 1, 0);
+        Due.is("first in line", x.waiting(0), 1);
+        Due.is("close", x.close(), 3);
+        Due.told("closed", x, 3, 0, 0, 32, 0, 0, NONE, 0, 0, 3, 0);
+        for (int number = 0; number < 3; number++) {
+            Due.thread("ended", x, number, 4, NONE, NONE, 0, 1);
+        }
+        Due.is("none waits", x.waiting(0), NONE);
     }
 }
