@@ -2,15 +2,36 @@
 final class Due {
     private static int asked = 0;
     private static int wrong = 0;
+    private static int askedBefore = 0;
+    private static String sentence = "";
 
     private Due() {
+    }
+
+    /**
+     * What is asked from here on belongs to this sentence of the document, which is printed with
+     * every wrong answer. It must stand under the promise, or where the document has its terms.
+     */
+    static void sentence(int promise, String words) {
+        endSentence();
+        sentence = "Promise " + promise + ", '" + words + "': ";
+        holds("the document says so", Document.says(promise, words));
+        askedBefore = asked;
+    }
+
+    // A sentence that nothing was asked for is not tested.
+    private static void endSentence() {
+        if (!sentence.isEmpty() && asked == askedBefore) {
+            wrong++;
+            System.out.println(sentence + "nothing was asked");
+        }
     }
 
     static void is(String call, int got, int want) {
         asked++;
         if (got != want) {
             wrong++;
-            System.out.println(call + " answered " + got + ", due is " + want);
+            System.out.println(sentence + call + " answered " + got + ", due is " + want);
         }
     }
 
@@ -45,6 +66,13 @@ final class Due {
         }
     }
 
+    /** So many turns of one thread, each of which does something. */
+    static void steps(String when, PackThreads x, int thread, int howMany) {
+        for (int k = 0; k < howMany; k++) {
+            is(when + ": turn(" + thread + ") as number " + k, x.turn(thread), 1);
+        }
+    }
+
     static void plain(String when, PackThreads x, int... want) {
         for (int i = 0; i < want.length; i++) {
             is(when + ": plain(" + i + ")", x.plain(i), want[i]);
@@ -60,6 +88,7 @@ final class Due {
     }
 
     static void finish() {
+        endSentence();
         System.out.println(asked + " answers, " + wrong + " not as due");
         if (wrong != 0 || asked == 0) {
             System.exit(1);

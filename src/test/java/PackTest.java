@@ -171,8 +171,8 @@ public final class PackTest {
 
     private static String unpack(PackThreads x) {
         List<Integer> bytes = new ArrayList<>();
-        for (int i = 0; x.plain(i) != NONE; i++) {
-            bytes.add(x.plain(i));
+        for (int i = 0, v = x.plain(0); v != NONE; v = x.plain(++i)) {
+            bytes.add(v);
         }
         StringBuilder text = new StringBuilder();
         for (int i = 0; i < bytes.size();) {
