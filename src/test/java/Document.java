@@ -12,6 +12,8 @@ final class Document {
     static final String WHAT_IT_IS = "What it is";
     static final String TERMS = "Terms";
 
+    private static final Pattern CALL = Pattern.compile("^`([^`]*)`: ");
+    private static final Map<String, String> SIGNATURES = new LinkedHashMap<>();
     private static Map<String, String> parts;
 
     private Document() {
@@ -43,16 +45,25 @@ final class Document {
         return parts.getOrDefault(heading, "");
     }
 
+    /** The call that a promise is of, as it stands before the promise's words. */
+    static String signature(String promise) {
+        return part(promise).isEmpty() ? "" : SIGNATURES.getOrDefault(promise, "");
+    }
+
     private static Map<String, String> read() {
         Map<String, String> found = new LinkedHashMap<>();
         Matcher matcher = Pattern.compile("(?ms)^## (.+?)$(.*?)(?=^## |\\z)").matcher(words());
         while (matcher.find()) {
             String heading = matcher.group(1).replaceAll("^(Promise \\d+):.*", "$1").trim();
-            found.put(heading, matcher.group(2)
+            String text = matcher.group(2)
                     .replaceAll("(?m)^```.*$", "")
                     .replaceAll("\\s+", " ")
-                    .replaceAll("^ `[^`]*`: ", "")
-                    .trim());
+                    .trim();
+            Matcher call = CALL.matcher(text);
+            if (call.find()) {
+                SIGNATURES.put(heading, call.group(1));
+            }
+            found.put(heading, call.replaceFirst(""));
         }
         return found;
     }

@@ -1,6 +1,3 @@
-import java.util.ArrayList;
-import java.util.List;
-
 /** Promises 10 and 13: out and plain, the bytes of packs. */
 public final class PackTest {
     private static final int NONE = PackThreads.NONE;
@@ -165,29 +162,7 @@ public final class PackTest {
             x.set(0, 4 + round % 29);
             x.set(1, round % 65);
             Due.types(x, text.toString());
-            Due.holds("round " + round + " unpacks", text.toString().equals(unpack(x)));
+            Due.holds("round " + round + " unpacks", text.toString().equals(new Unpack(x).text()));
         }
-    }
-
-    private static String unpack(PackThreads x) {
-        List<Integer> bytes = new ArrayList<>();
-        for (int i = 0, v = x.plain(0); v != NONE; v = x.plain(++i)) {
-            bytes.add(v);
-        }
-        StringBuilder text = new StringBuilder();
-        for (int i = 0; i < bytes.size();) {
-            int head = bytes.get(i++);
-            if (head >= 128) {
-                int distance = bytes.get(i++) + 1;
-                for (int k = 0; k < head - 128 + 3; k++) {
-                    text.append(text.charAt(text.length() - distance));
-                }
-            } else {
-                for (int k = 0; k < head; k++) {
-                    text.append((char) (int) bytes.get(i++));
-                }
-            }
-        }
-        return text.toString();
     }
 }

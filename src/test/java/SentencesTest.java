@@ -12,7 +12,7 @@ import java.util.Set;
 import java.util.regex.Matcher;
 import java.util.regex.Pattern;
 
-/** Each sentence of the document's terms and promises is quoted by a test of its own. */
+/** Each sentence of the document, but for what is not promised, is quoted by a test of its own. */
 public final class SentencesTest {
     private static final Pattern QUOTE =
             Pattern.compile("Due\\.sentence\\((\\d+),\\s*((?:\"[^\"]*\"[\\s+]*)+|RULE)\\)");
@@ -30,11 +30,10 @@ public final class SentencesTest {
         for (int number = 1; number <= PROMISES; number++) {
             Due.holds("promise " + number + " has tests of its sentences",
                     test.promises.contains(number));
-            test.allQuoted(Document.promise(number), 0);
+            test.allQuoted(Document.promise(number));
         }
-        test.allQuoted(Document.TERMS, 0);
-        // Before this mark the document tells in short what the terms tell.
-        test.allQuoted(Document.WHAT_IT_IS, Document.part(Document.WHAT_IT_IS).indexOf("========"));
+        test.allQuoted(Document.TERMS);
+        test.allQuoted(Document.WHAT_IT_IS);
         Due.finish();
     }
 
@@ -79,12 +78,12 @@ public final class SentencesTest {
         }
     }
 
-    private void allQuoted(String heading, int from) {
+    private void allQuoted(String heading) {
         String part = Document.part(heading);
         Due.holds(heading + " stands in the document", !part.isEmpty());
         boolean[] marks = quoted.getOrDefault(heading, new boolean[part.length()]);
         StringBuilder left = new StringBuilder();
-        for (int i = Math.max(0, from); i < part.length(); i++) {
+        for (int i = 0; i < part.length(); i++) {
             left.append(marks[i] ? '\n' : part.charAt(i));
         }
         for (String words : left.toString().replaceAll("======== \\d", "").split("\n+")) {
